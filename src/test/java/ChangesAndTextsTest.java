@@ -10,12 +10,15 @@ public final class ChangesAndTextsTest {
         historyHoldsFour();
         eachChangeIsRecorded();
         errorsRecordNothing();
+        eachChangeIsUndone();
         undoRestoresAll();
         typing();
         forms();
         ranges();
         impossible();
         faultsInOrder();
+        nothingBehindTheEnd();
+        fullTexts();
         faultChangesNothing();
         playing();
         playIsOneChange();
@@ -84,6 +87,51 @@ public final class ChangesAndTextsTest {
         due("count(10) after errors", shop.count(10), 0);
     }
 
+    /** The state that each kind of change records is the one just ahead of it. */
+    private static void eachChangeIsUndone() {
+        OrderLevels shop = new OrderLevels();
+        shop.weigh(1, 2);
+        shop.weigh(1, 3);
+        shop.undo();
+        due("setting(0, 1)", shop.setting(0, 1), 2);
+        shop.cost(2, 3);
+        shop.cost(2, 4);
+        shop.undo();
+        due("setting(1, 2)", shop.setting(1, 2), 3);
+        shop.plan(6, 1, 5);
+        shop.plan(6, 2, 7);
+        shop.undo();
+        due("setting(2, 6)", shop.setting(2, 6), 1);
+        due("setting(3, 6)", shop.setting(3, 6), 5);
+        shop.season(0, 6);
+        shop.season(9, 2);
+        shop.undo();
+        due("count(0)", shop.count(0), 0);
+        due("count(1)", shop.count(1), 6);
+        shop.cost(2, 5);
+        shop.order(4);
+        shop.undo();
+        due("setting(1, 2) after order and undo", shop.setting(1, 2), 5);
+        due("count(0) after order and undo", shop.count(0), 0);
+        due("count(2) after order and undo", shop.count(2), 0);
+        due("count(5) after order and undo", shop.count(5), 0);
+        due("count(8) after order and undo", shop.count(8), 0);
+        shop.follow();
+        due("count(0)", shop.count(0), 5);
+        shop.undo();
+        due("count(0) after follow and undo", shop.count(0), 0);
+        due("count(4) after follow and undo", shop.count(4), 0);
+        shop.order(4);
+        shop.sell(6);
+        shop.undo();
+        due("count(0) after sell and undo", shop.count(0), 4);
+        due("count(1) after sell and undo", shop.count(1), 6);
+        due("count(2) after sell and undo", shop.count(2), 1);
+        due("count(6) after sell and undo", shop.count(6), 0);
+        due("count(7) after sell and undo", shop.count(7), 0);
+        due("count(9) after sell and undo", shop.count(9), 0);
+    }
+
     private static void undoRestoresAll() {
         OrderLevels shop = new OrderLevels();
         shop.plan(2, 4, 9);
@@ -93,7 +141,16 @@ public final class ChangesAndTextsTest {
         due("count(8)", shop.count(8), 5 + 8 + 3);
         CHECKS.write(shop, "weight 2 7;cost 3 29;plan 6 1 2;sell 5;season 9 6;order 12;sell 3;");
         due("play()", shop.play(), 7);
-        due("count(9)", shop.count(9), 3);
+        int[] played = {9, 5, 0, 8, 2, 11, 12, 2, 91, 3, 4, 66};
+        for (int what = 0; what < played.length; what++) {
+            due("count(" + what + ") after play", shop.count(what), played[what]);
+        }
+        due("setting(0, 2) after play", shop.setting(0, 2), 7);
+        due("setting(1, 3) after play", shop.setting(1, 3), 29);
+        due("setting(2, 6) after play", shop.setting(2, 6), 1);
+        due("setting(3, 6) after play", shop.setting(3, 6), 2);
+        due("saleAt(0, 2) after play", shop.saleAt(0, 2), 12);
+        due("saleAt(2, 2) after play", shop.saleAt(2, 2), 9);
         due("undo()", shop.undo(), 3);
         int[] want = {3, 1, 0, 1, 1, 8, 6, 0, 16, 1, 3, 66};
         for (int what = 0; what < want.length; what++) {
@@ -164,7 +221,8 @@ public final class ChangesAndTextsTest {
             "cost 1;", "cost 0 1 2;", "season 1;", "season 1 2 3;", "plan 1 2;", "plan 1 2 3 4;",
             "order;", "order ;", "order 1 2;", "order 100;", "follow ;", "follow 1;", "follow",
             "follo;", "follows;", "sell;", "sell 1 1;", "sell 000;", "sel 1;", "sell 1:",
-            "undo;", "play;", "sell\"1;", "se", "w", "weight 1 2:;"};
+            "undo;", "play;", "sell\"1;", "se", "w", "weight 1 2:;",
+            " 1 2;", " 1;", "1 2;", "a 1 2;"};
         for (String text : wrong) {
             fault(shop, text, 0, 1);
             fault(shop, "cost 0 5;" + text, 9, 1);
@@ -214,6 +272,36 @@ public final class ChangesAndTextsTest {
         fault(shop, "season 1 1;sell 9;sell 1;sell 1;", 11, 2);
         fault(shop, "sell 9", 0, 1);
         fault(shop, "order 99;", 0, 2);
+    }
+
+    /** What stood in a text that was emptied does not count any more. */
+    private static void nothingBehindTheEnd() {
+        OrderLevels shop = new OrderLevels();
+        shop.season(0, 6);
+        fault(shop, "cost 0 5;follow;", NONE, NONE);
+        fault(shop, "cost 0 5;follow", 9, 1);
+        fault(shop, "cost 0 5;follow;", NONE, NONE);
+        fault(shop, "cost 0 5;fol", 9, 1);
+        fault(shop, "sell 1;sell 2;", NONE, NONE);
+        fault(shop, "sell 1;", NONE, NONE);
+        due("play() of the shorter text", shop.play(), 1);
+        fault(shop, "sell 1;sell ", 7, 1);
+    }
+
+    /** Texts of 80 characters, in which the last command stops at the very end. */
+    private static void fullTexts() {
+        OrderLevels shop = new OrderLevels();
+        String seventyTwo = "cost 0 5;".repeat(8);
+        String[] ends = {"cost 0 5", "weight 1", "season 1", "sell  1;", "followed", "plan 1 2"};
+        for (String end : ends) {
+            fault(shop, seventyTwo + end, 72, 1);
+        }
+        fault(shop, "season 00 06;" + "cost 0 5;".repeat(5) + "weight 1 1;order 10;se", 78, 1);
+        fault(shop, "season 00 06;" + "cost 0 5;".repeat(6) + "order 10;sell", 76, 1);
+        fault(shop, "season 00 06;" + "cost 00 05;".repeat(5) + "plan 1 1 20;", NONE, NONE);
+        due("count(11)", shop.count(11), 80);
+        due("play()", shop.play(), 7);
+        fault(shop, "season 00 06;" + "cost 00 05;".repeat(4) + "weight 0 1;follow;sell ", 75, 1);
     }
 
     private static void faultChangesNothing() {

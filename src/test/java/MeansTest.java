@@ -12,6 +12,7 @@ public final class MeansTest {
         shapesByHand();
         equalLevels();
         planByHand();
+        regretFirst();
         pairsByHand();
         dearest();
         errors();
@@ -33,6 +34,7 @@ public final class MeansTest {
         {0, 3, 0, 0, 9, 0, 0, 0, 9, 9, 11, 0},
         {0, 0, 0, 0, 0, 1, 0, 0, 0, 0, 0, 0},
         {5, 0, 0, 7, 0, 0, 0, 17, 1, 0, 12, 0},
+        {0, 0, 0, 0, 0, 1, 0, 99, 0, 0, 29, 0},
         {1, 0, 0, 0, 0, 0, 0, 5, 1, 1, 4, 0},
     };
 
@@ -157,6 +159,11 @@ public final class MeansTest {
         due("shape(1, 1)", shop.shape(1, 1), NONE);
         shop.cost(3, 5);
         due("best(0, 1) dearer", shop.best(0, 1), 1);
+        // Four periods of 5 pieces each, and an order that is dear: the highest level.
+        OrderLevels dear = shopOf(0, 0, 0, 0, 0, 1, 0, 99, 0, 0, 29, 0);
+        due("dear best(0, 4)", dear.best(0, 4), 20);
+        due("dear shape(4, 0)", dear.shape(4, 0), 20);
+        due("dear least(0, 4, 0)", dear.least(0, 4, 0), 99);
         // All levels from 1 on cost nothing more.
         OrderLevels free = shopOf(0, 1, 0, 0, 0, 0, 0, 0, 0, 0, 4, 0);
         due("free best(0, 1)", free.best(0, 1), 1);
@@ -180,8 +187,23 @@ public final class MeansTest {
         due("planned(20, 2, 0)", shop.planned(20, 2, 0), 18 + 16 + 32);
         due("least(0, 2, 0)", shop.least(0, 2, 0), 5 + 4 + 2);
         due("regret(0, 2, 0)", shop.regret(0, 2, 0), 25 - 11);
+        shop.plan(1, 0, 0);
+        due("regret(0, 2, 0) by another plan", shop.regret(0, 2, 0), 10 + 3 + 1 + 2 - 11);
+        shop.cost(4, 3);
+        due("regret(0, 2, 0) by another cost", shop.regret(0, 2, 0), 10 + 3 + 1 + 3 - 11);
+        shop.cost(4, 2);
+        shop.plan(1, 4, 4);
         due("regret(20, 2, 0)", shop.regret(20, 2, 0), 0);
         due("regret(20, 2, 1)", shop.regret(20, 2, 1), 1);
+    }
+
+    /** The regret alone, without a call ahead that finds the best way or the plan's cost. */
+    private static void regretFirst() {
+        OrderLevels shop = shopOf(0, 0, 1, 0, 0, 0, 0, 5, 1, 1, 4, 2);
+        due("regret(0, 2, 0) at first", shop.regret(0, 2, 0), 16 - 11);
+        due("regret(0, 2, 1) at first", shop.regret(0, 2, 1), 1);
+        shop.cost(0, 9);
+        due("regret(0, 2, 0) after cost", shop.regret(0, 2, 0), 16 - 15);
     }
 
     private static void pairsByHand() {
