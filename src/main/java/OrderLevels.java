@@ -226,7 +226,7 @@ public final class OrderLevels {
         return script.commandsDone();
     }
 
-    /** Records the state that the spare shop holds from ahead of a change, if the change was done. */
+    /** Keeps the state ahead of a change, which the spare shop holds, if the change was done. */
     private int recorded(int answer) {
         if (answer >= 0) {
             history.record(spare);
