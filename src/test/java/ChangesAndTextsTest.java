@@ -207,12 +207,11 @@ public final class ChangesAndTextsTest {
     }
 
     private static void forms() {
-        OrderLevels shop = new OrderLevels();
         String[] right = {"", "weight 0 1;", "weight 00 01;", "cost 0 99;", "season 20 6;",
             "season 09 06;", "plan 6 0 20;", "plan 1 20 20;", "season 0 1;order 0;",
             "season 0 1;follow;sell 6;"};
         for (String text : right) {
-            fault(shop, text, NONE, NONE);
+            fault(new OrderLevels(), text, NONE, NONE);
         }
         String[] wrong = {"x", ";", " ", "weight", "weight 1 2", "weight 1;", "weight 1 2 3;",
             "weight 001 2;", "weight 1 100;", "weight  1 2;", " weight 1 2;", "weight 1 2 ;",
@@ -224,25 +223,27 @@ public final class ChangesAndTextsTest {
             "undo;", "play;", "sell\"1;", "se", "w", "weight 1 2:;",
             " 1 2;", " 1;", "1 2;", "a 1 2;"};
         for (String text : wrong) {
+            OrderLevels shop = new OrderLevels();
             fault(shop, text, 0, 1);
             fault(shop, "cost 0 5;" + text, 9, 1);
         }
+        OrderLevels shop = new OrderLevels();
         fault(shop, "cost 0 5; cost 0 6;", 9, 1);
         fault(shop, "cost 0 5;;", 9, 1);
         fault(shop, "cost 0 5;cost 0 6; ", 18, 1);
     }
 
     private static void ranges() {
-        OrderLevels shop = new OrderLevels();
         String[] wrong = {"weight 7 1;", "weight 0 10;", "weight 99 99;", "cost 5 0;", "cost 1 10;",
             "cost 2 10;", "cost 3 30;", "cost 4 10;", "season 21 1;", "season 0 0;", "season 0 7;",
             "plan 0 1 2;", "plan 7 1 2;", "plan 1 3 2;", "plan 1 1 21;", "plan 1 21 21;",
             "order 21;", "sell 7;"};
         for (String text : wrong) {
+            OrderLevels shop = new OrderLevels();
             fault(shop, text, 0, 2);
             fault(shop, "season 4 6;" + text, 11, 2);
         }
-        fault(shop, "season 4 6;order 5;order 99;", 19, 2);
+        fault(new OrderLevels(), "season 4 6;order 5;order 99;", 19, 2);
     }
 
     private static void impossible() {
@@ -294,7 +295,7 @@ public final class ChangesAndTextsTest {
         String seventyTwo = "cost 0 5;".repeat(8);
         String[] ends = {"cost 0 5", "weight 1", "season 1", "sell  1;", "followed", "plan 1 2"};
         for (String end : ends) {
-            fault(shop, seventyTwo + end, 72, 1);
+            fault(new OrderLevels(), seventyTwo + end, 72, 1);
         }
         fault(shop, "season 00 06;" + "cost 0 5;".repeat(5) + "weight 1 1;order 10;se", 78, 1);
         fault(shop, "season 00 06;" + "cost 0 5;".repeat(6) + "order 10;sell", 76, 1);

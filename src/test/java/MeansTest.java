@@ -42,20 +42,6 @@ public final class MeansTest {
         CHECKS.due(call, got, want);
     }
 
-    private static OrderLevels shopOf(int... settings) {
-        OrderLevels shop = new OrderLevels();
-        for (int turn = 0; turn < 2; turn++) {
-            // The second turn sets what the first could not, as the sum was above 12.
-            for (int demand = 6; demand >= 0; demand--) {
-                shop.weigh(demand, settings[demand]);
-            }
-        }
-        for (int what = 0; what < 5; what++) {
-            shop.cost(what, settings[7 + what]);
-        }
-        return shop;
-    }
-
     private static SlowShop slowOf(int... settings) {
         SlowShop shop = new SlowShop();
         for (int turn = 0; turn < 2; turn++) {
@@ -70,7 +56,7 @@ public final class MeansTest {
     }
 
     private static void byHand() {
-        OrderLevels shop = shopOf(SETTINGS[0]);
+        OrderLevels shop = Shops.of(SETTINGS[0]);
         // Sixths of the level function of one period, from level 0.
         int[] sixths = {99, 71, 43, 45, 47, 49, 61, 73};
         for (int level = 0; level < sixths.length; level++) {
@@ -108,7 +94,7 @@ public final class MeansTest {
     }
 
     private static void shapesByHand() {
-        OrderLevels shop = shopOf(SETTINGS[0]);
+        OrderLevels shop = Shops.of(SETTINGS[0]);
         int[] want = {2, 0, 0, NONE, 0, NONE, 1};
         for (int what = 0; what < want.length; what++) {
             due("shape(1, " + what + ")", shop.shape(1, what), want[what]);
@@ -122,7 +108,7 @@ public final class MeansTest {
         due("idle least(20, 6, 0)", idle.least(20, 6, 0), 120);
         due("idle levelValue(20, 6, 0)", idle.levelValue(20, 6, 0), 140);
         // Always 1 piece: an order of 3 from stock 0 alone, for both periods at once.
-        OrderLevels one = shopOf(0, 1, 0, 0, 0, 0, 0, 3, 0, 1, 29, 0);
+        OrderLevels one = Shops.of(0, 1, 0, 0, 0, 0, 0, 3, 0, 1, 29, 0);
         due("one shape(2, 0)", one.shape(2, 0), 2);
         due("one shape(2, 1)", one.shape(2, 1), 0);
         due("one levelValue(0, 2, 0)", one.levelValue(0, 2, 0), 29 + 3);
@@ -154,18 +140,18 @@ public final class MeansTest {
 
     private static void equalLevels() {
         // An order of 3 and a piece of 1 are as dear as a piece lost: of equal levels the least.
-        OrderLevels shop = shopOf(0, 1, 0, 0, 0, 0, 0, 3, 1, 0, 4, 0);
+        OrderLevels shop = Shops.of(0, 1, 0, 0, 0, 0, 0, 3, 1, 0, 4, 0);
         due("best(0, 1)", shop.best(0, 1), 0);
         due("shape(1, 1)", shop.shape(1, 1), NONE);
         shop.cost(3, 5);
         due("best(0, 1) dearer", shop.best(0, 1), 1);
         // Four periods of 5 pieces each, and an order that is dear: the highest level.
-        OrderLevels dear = shopOf(0, 0, 0, 0, 0, 1, 0, 99, 0, 0, 29, 0);
+        OrderLevels dear = Shops.of(0, 0, 0, 0, 0, 1, 0, 99, 0, 0, 29, 0);
         due("dear best(0, 4)", dear.best(0, 4), 20);
         due("dear shape(4, 0)", dear.shape(4, 0), 20);
         due("dear least(0, 4, 0)", dear.least(0, 4, 0), 99);
         // All levels from 1 on cost nothing more.
-        OrderLevels free = shopOf(0, 1, 0, 0, 0, 0, 0, 0, 0, 0, 4, 0);
+        OrderLevels free = Shops.of(0, 1, 0, 0, 0, 0, 0, 0, 0, 0, 4, 0);
         due("free best(0, 1)", free.best(0, 1), 1);
         due("free best(0, 6)", free.best(0, 6), 1);
         due("free shape(1, 0)", free.shape(1, 0), 1);
@@ -174,7 +160,7 @@ public final class MeansTest {
 
     private static void planByHand() {
         // Always 2 pieces.
-        OrderLevels shop = shopOf(0, 0, 1, 0, 0, 0, 0, 5, 1, 1, 4, 2);
+        OrderLevels shop = Shops.of(0, 0, 1, 0, 0, 0, 0, 5, 1, 1, 4, 2);
         due("planned(0, 2, 0) without levels", shop.planned(0, 2, 0), 16);
         shop.plan(2, 1, 5);
         shop.plan(1, 4, 4);
@@ -199,7 +185,7 @@ public final class MeansTest {
 
     /** The regret alone, without a call ahead that finds the best way or the plan's cost. */
     private static void regretFirst() {
-        OrderLevels shop = shopOf(0, 0, 1, 0, 0, 0, 0, 5, 1, 1, 4, 2);
+        OrderLevels shop = Shops.of(0, 0, 1, 0, 0, 0, 0, 5, 1, 1, 4, 2);
         due("regret(0, 2, 0) at first", shop.regret(0, 2, 0), 16 - 11);
         due("regret(0, 2, 1) at first", shop.regret(0, 2, 1), 1);
         shop.cost(0, 9);
@@ -207,7 +193,7 @@ public final class MeansTest {
     }
 
     private static void pairsByHand() {
-        OrderLevels shop = shopOf(0, 0, 1, 0, 0, 0, 0, 5, 1, 1, 4, 2);
+        OrderLevels shop = Shops.of(0, 0, 1, 0, 0, 0, 0, 5, 1, 1, 4, 2);
         // Once up to 4 is best for two periods: low 1, as a stock of 2 is left then.
         long[] want = {1, 4, 11, 1};
         for (int what = 0; what < 4; what++) {
@@ -221,7 +207,7 @@ public final class MeansTest {
         due("bestPlan(1, 1, 0)", shop.bestPlan(1, 1, 0), 0);
         due("bestPlan(1, 1, 1)", shop.bestPlan(1, 1, 1), 0);
         due("bestPlan(1, 1, 2)", shop.bestPlan(1, 1, 2), 4);
-        OrderLevels halves = shopOf(SETTINGS[0]);
+        OrderLevels halves = Shops.of(SETTINGS[0]);
         due("bestPlan(0, 1, 0)", halves.bestPlan(0, 1, 0), 1);
         due("bestPlan(0, 1, 1)", halves.bestPlan(0, 1, 1), 2);
         due("bestPlan(0, 1, 2)", halves.bestPlan(0, 1, 2), 79);
@@ -231,7 +217,7 @@ public final class MeansTest {
     /** The greatest numbers that come up are right: nothing runs over. */
     private static void dearest() {
         int[] settings = {1, 0, 0, 0, 0, 2, 9, 99, 9, 9, 29, 9};
-        OrderLevels shop = shopOf(settings);
+        OrderLevels shop = Shops.of(settings);
         SlowShop slow = slowOf(settings);
         for (int periods = 1; periods <= 6; periods++) {
             shop.plan(periods, 20, 20);
@@ -243,7 +229,7 @@ public final class MeansTest {
     }
 
     private static void errors() {
-        OrderLevels shop = shopOf(SETTINGS[0]);
+        OrderLevels shop = Shops.of(SETTINGS[0]);
         int[][] wrong = {{-1, 1, 0}, {21, 1, 0}, {0, -1, 0}, {0, 7, 0}, {0, 1, -1}, {0, 1, 2}};
         for (int[] three : wrong) {
             threeErrors(shop, three[0], three[1], three[2]);
@@ -282,15 +268,11 @@ public final class MeansTest {
     }
 
     private static void compareAll(int[] settings) {
-        OrderLevels shop = shopOf(settings);
-        SlowShop slow = slowOf(settings);
-        for (int periods = 1; periods <= 6; periods++) {
-            int low = 7 - periods;
-            int high = low + 2 * periods;
-            due("plan(" + periods + ", ..)", shop.plan(periods, low, high),
-                    slow.plan(periods, low, high));
-        }
         for (int periods = 0; periods <= 6; periods++) {
+            // An object of its own for each number of periods, as it takes 512 calls at most.
+            OrderLevels shop = Shops.of(settings);
+            SlowShop slow = slowOf(settings);
+            planBoth(shop, slow);
             for (int stock = 0; stock <= 20; stock += 1 + periods / 3) {
                 compareStock(shop, slow, stock, periods);
             }
@@ -298,6 +280,15 @@ public final class MeansTest {
                 due("shape(" + periods + ", " + what + ")", shop.shape(periods, what),
                         slow.shape(periods, what));
             }
+        }
+    }
+
+    private static void planBoth(OrderLevels shop, SlowShop slow) {
+        for (int periods = 1; periods <= 6; periods++) {
+            int low = 7 - periods;
+            int high = low + 2 * periods;
+            due("plan(" + periods + ", ..)", shop.plan(periods, low, high),
+                    slow.plan(periods, low, high));
         }
     }
 
@@ -317,7 +308,7 @@ public final class MeansTest {
     }
 
     private static void comparePairs(int[] settings) {
-        OrderLevels shop = shopOf(settings);
+        OrderLevels shop = Shops.of(settings);
         SlowShop slow = slowOf(settings);
         for (int periods = 1; periods <= 3; periods++) {
             for (int stock = 0; stock <= 20; stock += 5) {

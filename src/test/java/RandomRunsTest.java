@@ -3,7 +3,10 @@ import java.util.Random;
 /** Runs of calls by chance (always the same ones), answered by the class and by the slow model. */
 public final class RandomRunsTest {
     private static final int RUNS = 1200;
-    private static final int CALLS = 400;
+    private static final int MOST_CALLS = 512;
+    // The most calls of one turn, and those that look at the whole state at the end.
+    private static final int TURN_CALLS = 5;
+    private static final int STATE_CALLS = 12 + 4 * 7 * 2;
     private static final String[] WORDS = {
         "weight", "cost", "season", "plan", "order", "follow", "sell",
     };
@@ -17,6 +20,7 @@ public final class RandomRunsTest {
     private OrderLevels shop;
     private SlowShop slow;
     private int run;
+    private int calls;
     private String wanted = "";
 
     public static void main(String[] args) {
@@ -31,13 +35,15 @@ public final class RandomRunsTest {
         shop = new OrderLevels();
         slow = new SlowShop();
         wanted = "";
-        for (int call = 0; call < CALLS; call++) {
+        calls = 0;
+        while (calls + TURN_CALLS + STATE_CALLS <= MOST_CALLS) {
             oneCall();
         }
         wholeState();
     }
 
     private void due(String call, long got, long want) {
+        calls++;
         checks.due("run " + run + ": " + call, got, want);
     }
 
