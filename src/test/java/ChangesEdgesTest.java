@@ -22,6 +22,8 @@ public final class ChangesEdgesTest {
         ringTurns();
         playDropsTheOldest();
         everythingBeforeIt();
+        changesInARow();
+        refusedInARow();
         allButTheText();
         invalidAheadOfImpossible();
         invalidAheadOfLimit();
@@ -261,6 +263,53 @@ public final class ChangesEdgesTest {
         due("follow()", next.follow(), 6);
         next.undo();
         sameNumbers("follow", Shops.state(next), before);
+    }
+
+    /** Nothing is asked between the changes, as asking must not be what keeps a state right. */
+    private static void changesInARow() {
+        says("each change records everything before it");
+        OrderLevels shop = fresh();
+        shop.plan(3, 5, 9);
+        shop.season(4, 3);
+        shop.follow();
+        shop.sell(2);
+        shop.undo();
+        due("count(0) after undo of sell", shop.count(0), 9);
+        due("count(2) after undo of sell", shop.count(2), 1);
+        shop.undo();
+        due("count(0) after undo of follow", shop.count(0), 4);
+        due("count(1) after undo of follow", shop.count(1), 3);
+        due("count(2) after undo of follow", shop.count(2), 0);
+        shop.order(7);
+        shop.weigh(1, 2);
+        shop.undo();
+        due("count(3) after undo of weigh", shop.count(3), 1);
+        shop.undo();
+        due("count(0) after undo of order", shop.count(0), 4);
+        shop.undo();
+        due("count(1) after undo of season", shop.count(1), 0);
+        due("setting(2, 3) after undo of season", shop.setting(2, 3), 5);
+        shop.undo();
+        due("setting(2, 3) after undo of plan", shop.setting(2, 3), 0);
+    }
+
+    /** A change, one that is refused, and a change: the refused one leaves no state behind. */
+    private static void refusedInARow() {
+        says("A call that returns an error changes nothing.");
+        OrderLevels shop = fresh();
+        shop.season(4, 3);
+        shop.order(3);
+        shop.follow();
+        shop.follow();
+        shop.sell(1);
+        shop.sell(7);
+        shop.undo();
+        due("count(0) after undo of sell", shop.count(0), 4);
+        due("count(2) after undo of sell", shop.count(2), 1);
+        shop.undo();
+        due("count(2) after undo of follow", shop.count(2), 0);
+        due("undo() of season", shop.undo(), 0);
+        due("count(1) after undo of season", shop.count(1), 0);
     }
 
     private static void sameNumbers(String call, long[] got, long[] want) {

@@ -35,6 +35,7 @@ public final class MeansEdgesTest {
         pairLowestHigh();
         pairHighest();
         pairOfAllPeriods();
+        pairEnd();
         meansChangeNothing();
         CHECKS.end("edges of promises 12 to 18");
     }
@@ -413,6 +414,22 @@ public final class MeansEdgesTest {
         pair(shop, 2, 3, 1, 4, 11, 1);
         shop.plan(3, 20, 20);
         pair(shop, 2, 3, 1, 4, 11, 1);
+    }
+
+    private static void pairEnd() {
+        says("with no period left it is the cost 4 times the stock");
+        // Nobody buys; all 5 pieces are kept for a 1 each period and left behind for a 9 each.
+        OrderLevels kept = Shops.of(1, 0, 0, 0, 0, 0, 0, 5, 1, 1, 4, 9);
+        pair(kept, 5, 1, 0, 0, 5 + 45, 1);
+        pair(kept, 5, 3, 0, 0, 15 + 45, 1);
+        pair(kept, 0, 1, 0, 0, 0, 1);
+        // Half of the customers want 6: a piece saves 8 half the time and costs the cost 4 else.
+        OrderLevels above = Shops.of(1, 0, 0, 0, 0, 0, 1, 0, 0, 0, 8, 9);
+        pair(above, 0, 1, 0, 0, 24, 1);
+        OrderLevels alike = Shops.of(1, 0, 0, 0, 0, 0, 1, 0, 0, 0, 8, 8);
+        pair(alike, 0, 1, 0, 0, 24, 1);
+        OrderLevels below = Shops.of(1, 0, 0, 0, 0, 0, 1, 0, 0, 0, 8, 7);
+        pair(below, 0, 1, 1, 6, 21, 1);
     }
 
     private static void meansChangeNothing() {

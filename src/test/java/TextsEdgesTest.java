@@ -13,6 +13,8 @@ public final class TextsEdgesTest {
         eightyCharacters();
         emptyAtFirst();
         eachEnds();
+        noWord();
+        cutByTheEnd();
         oneBlank();
         wordsOfCommands();
         weightCommand();
@@ -126,6 +128,41 @@ public final class TextsEdgesTest {
         fault("cost 0 5;;", 9, FORM);
         noFault("cost 0 5;cost 0 6;");
         noFault("cost 0 5;");
+    }
+
+    private static void noWord() {
+        says("commands, .. of words with one blank between two: \"weight\" a demand and a weight");
+        wrongForms(" 0 1;", " 1;", " 1 1 1;", "1;", "1 1;", "1 1 1;", " ;", "  ;", "00;");
+    }
+
+    /** Commands that take so many characters, of 9 to 11 each. */
+    private static String costs(int length) {
+        String[] commands = {"cost 0 5;", "cost 0 05;", "cost 00 05;"};
+        StringBuilder text = new StringBuilder();
+        for (int left = length / 9; left > 0; left--) {
+            int more = length - text.length() - 9 * left;
+            text.append(commands[Math.min(2, more)]);
+        }
+        return text.toString();
+    }
+
+    /** Each command, cut off at each place, at the end of a text of 80 characters. */
+    private static void cutByTheEnd() {
+        says("There is a text of at most 80 characters");
+        String[] commands = {
+            "weight 1;", "weight 0 1;", "cost 0 5;", "season 1 1;", "plan 1 1 1;", "order 1;", "follow;",
+            "sell 1;",
+        };
+        for (String command : commands) {
+            for (int signs = 1; signs < command.length(); signs++) {
+                int ahead = 80 - signs;
+                String text = costs(ahead) + command.substring(0, signs);
+                OrderLevels shop = inSeason(0, 6);
+                due("characters of \"" + text + "\"", text.length(), 80);
+                fault(shop, text, ahead, FORM);
+                due("play() of \"" + text + "\"", shop.play(), IMPOSSIBLE);
+            }
+        }
     }
 
     private static void oneBlank() {
